@@ -18,8 +18,21 @@ final class Check {
     static void same(String what, String got, String due) {
         made++;
         if (!got.equals(due)) {
-            tell(what + " is\n  " + got + "\n, due is\n  " + due);
+            int from = Math.max(0, firstDifference(got, due) - 20);
+            tell(what + " has .. " + piece(got, from) + ", due is .. " + piece(due, from));
         }
+    }
+
+    private static int firstDifference(String one, String other) {
+        int i = 0;
+        while (i < one.length() && i < other.length() && one.charAt(i) == other.charAt(i)) {
+            i++;
+        }
+        return i;
+    }
+
+    private static String piece(String text, int from) {
+        return text.substring(from, Math.min(text.length(), from + 80));
     }
 
     static void yes(String what, boolean got) {
