@@ -4,200 +4,142 @@ public final class DecodeTest {
 
     public static void main(String[] args) {
         readsWhatWasWritten();
-        readsInto();
-        head();
-        cuts();
-        end();
-        stuffedBits();
-        otherCodes();
-        runs();
-        bounds();
+        answersHowMany();
+        theCodeStays();
+        readsIntoAnyPicture();
+        picturesOfOtherNumbers();
+        isAPictureLikeAnyOther();
+        everyCut();
+        whatThrowsLeavesAll();
+        canBeReadAgain();
         Check.end();
     }
 
-    private static int read(GradientCoder coder) {
-        try {
-            return coder.decode();
-        } catch (IllegalArgumentException e) {
-            return -1;
+    // "its samples and rebuilt values are what is read, contexts and run index as reading leaves them".
+    private static void readsWhatWasWritten() {
+        for (int near = 0; near <= 3; near++) {
+            GradientCoder coder = Face.encoded(255, near, SAMPLES);
+            String left = Face.left(coder);
+            String rebuilt = Face.rebuilt(coder);
+            Check.same("decode()", Codes.read(coder), 12);
+            Check.same("what reading leaves", Face.left(coder), left);
+            Check.same("samples", Face.samples(coder), rebuilt.replace("rebuilt", "samples"));
+            boolean isSame = Face.samples(coder).equals(Face.values(" samples", SAMPLES));
+            Check.same("NEAR " + near + ": samples are as they were", isSame ? 1 : 0, near == 0 ? 1 : 0);
         }
     }
 
-    private static void readsWhatWasWritten() {
-        for (int near = 0; near <= 3; near++) {
-            GradientCoder coder = Face.framed(255, near, SAMPLES);
-            coder.encode();
-            String rebuilt = Face.rebuilt(coder);
-            String rest = Face.numbers(coder) + Face.contexts(coder) + coder.runIndex() + Face.code(coder);
-            Check.same("decode()", read(coder), 12);
-            Check.same("rebuilt", Face.rebuilt(coder), rebuilt);
-            Check.same("samples", Face.samples(coder), rebuilt.replace("rebuilt", "samples"));
-            Check.same("all else", Face.numbers(coder) + Face.contexts(coder) + coder.runIndex()
-                + Face.code(coder), rest);
+    // "How many samples there are."
+    private static void answersHowMany() {
+        for (int width = 1; width <= 8; width++) {
+            for (int height = 1; height <= 8; height++) {
+                GradientCoder coder = Face.encoded(15, 0, new int[height][width]);
+                Check.same("decode() of " + width + ", " + height, Codes.read(coder), width * height);
+            }
         }
+    }
+
+    private static void theCodeStays() {
+        GradientCoder coder = Codes.holding(1, 1, 15, 0, "0" + Codes.limited(18, 0, 4));
+        String code = Face.code(coder);
+        Check.same("decode()", Codes.read(coder), 1);
+        Check.same("the code", Face.code(coder), code);
+        Check.same("size()", coder.size(), 11);
+        Check.same("decode() again", Codes.read(coder), 1);
     }
 
     // What stood in the object before does not show in what is read.
-    private static void readsInto() {
-        GradientCoder coder = Face.framed(255, 0, SAMPLES);
-        coder.encode();
+    private static void readsIntoAnyPicture() {
+        GradientCoder coder = Face.encoded(255, 0, SAMPLES);
         String coded = Face.all(coder);
         for (int y = 0; y < 3; y++) {
             Check.yes("row", coder.row(y, Face.row(9, 8, 7, 6)));
         }
-        Check.same("decode()", read(coder), 12);
+        Check.same("decode()", Codes.read(coder), 12);
         Check.same("all", Face.all(coder), coded);
-        coder.frame(8, 8, 10, 1);
-        coder.encode();
-        Check.same("decode()", read(coder), 64);
-        Check.same("number(2)", coder.number(2), 10);
-        // 4 columns and 3 rows with MAXVAL 9 make eight bits 1; the same bits are a picture of others too.
-        coder = Face.framed(9, 0, new int[3][4]);
-        coder.encode();
-        coder.poke(4, 200);
-        coder.poke(5, 2);
-        Check.same("decode()", read(coder), 12);
+        GradientCoder other = Codes.holding(Codes.bytes(2, 2, 15, 0, "11 11"));
+        Check.same("decode()", Codes.read(other), 4);
+        Check.same("as if it were coded", Face.all(other), Face.all(Face.encoded(15, 0, new int[2][2])));
+        Check.same("no sample of the picture before", other.sample(2, 0), -1);
+    }
+
+    // "the picture becomes what it says": the same bits are other pictures under other numbers.
+    private static void picturesOfOtherNumbers() {
+        GradientCoder coder = Face.encoded(9, 0, new int[3][4]);
+        Check.yes("poke", coder.poke(4, 200) && coder.poke(5, 2));
+        Check.same("decode()", Codes.read(coder), 12);
         Check.same("numbers", Face.numbers(coder), "numbers 4 3 200 2 41 6 32 9 17 35");
-        Check.same("samples", Face.samples(coder), " samples 0 0 0 0 0 0 0 0 0 0 0 0");
-        Check.same("context(0, 0)", coder.context(0, 0), 2);
+        Check.same("A at first", coder.context(0, 0), 2);
         Check.same("run index", coder.runIndex(), 8);
+        Check.yes("poke", coder.poke(2, 1) && coder.poke(3, 8) && coder.poke(4, 255) && coder.poke(5, 0));
+        Check.same("decode()", Codes.read(coder), 8);
+        Check.same("numbers", Face.numbers(coder), "numbers 1 8 255 0 256 8 32 3 7 21");
+        Check.same("A at first", coder.context(0, 0), 4);
+        Check.same("run index", coder.runIndex(), 4);
+        // And a row is one of the new picture.
+        Check.yes("row(7)", coder.row(7, -1L));
+        Check.same("sample(0, 7)", coder.sample(0, 7), 255);
     }
 
-    private static void head() {
-        int[][] bad = {{0, 254}, {0, 0}, {1, 217}, {1, 255}, {2, 0}, {2, 9}, {3, 0}, {3, 9}, {4, 2}, {4, 0},
-            {5, 4}, {5, 255}};
-        GradientCoder coder = Face.framed(9, 0, new int[3][4]);
-        for (int[] poke : bad) {
-            coder.encode();
-            coder.poke(poke[0], poke[1]);
-            Check.unreadable("byte " + poke[0] + " is " + poke[1], coder);
-        }
-        coder.encode();
-        coder.poke(4, 5);
-        coder.poke(5, 3);
-        Check.unreadable("NEAR is more than MAXVAL / 2", coder);
-        coder.poke(4, 6);
-        Check.same("NEAR is MAXVAL / 2", read(coder), 12);
+    private static void isAPictureLikeAnyOther() {
+        GradientCoder coder = Codes.holding(Codes.bytes(1, 3, 6, 1, "0 11 11 010"));
+        Check.same("decode()", Codes.read(coder), 3);
+        GradientCoder framed = Face.framed(6, 1, new int[][] {{3}, {0}, {6}});
+        Check.same("encode()", coder.encode(), framed.encode());
+        Check.same("all", Face.all(coder), Face.all(framed));
     }
 
-    private static void cuts() {
-        GradientCoder coder = Face.framed(255, 0, SAMPLES);
-        int size = coder.encode();
+    private static void everyCut() {
+        GradientCoder coder = Face.encoded(255, 0, SAMPLES);
+        int size = coder.size();
         for (int n = size - 1; n >= 0; n--) {
-            coder.cut(n);
+            Check.yes("cut(" + n + ")", coder.cut(n));
             Check.unreadable("cut to " + n, coder);
         }
         Check.same("coded again", coder.encode(), size);
-        Check.same("decode()", read(coder), 12);
+        Check.same("decode()", Codes.read(coder), 12);
     }
 
-    private static void end() {
-        GradientCoder coder = new GradientCoder();
-        coder.encode();
-        for (int bit = 0; bit < 7; bit++) {
-            coder.poke(6, 128 | 1 << bit);
-            Check.unreadable("a bit that is left is 1", coder);
+    // "What throws leaves everything as it was": the picture, its samples, rebuilt values, contexts, the run index, and
+    // the code; wherever reading stops, and however often.
+    private static void whatThrowsLeavesAll() {
+        GradientCoder coder = Face.encoded(100, 2, new int[][] {{7, 7, 7, 30, 30}, {7, 7, 9, 99, 0}});
+        Check.yes("row", coder.row(1, Face.row(1, 2, 3, 4, 5)));
+        int last = coder.size() - 1;
+        Check.same("code", Face.code(coder), "255 216 5 2 100 2 116 1 171 3 64 255 217");
+        // Found at the end (the last two, a bit that is left), in the last two samples (the bits end), in the head.
+        int[][] spoilt = {{last, 216}, {last - 1, 254}, {10, 65}, {9, 0}, {5, 51}, {4, 2}, {3, 9}, {2, 0}, {1, 0}, {0, 0}};
+        for (int[] poke : spoilt) {
+            int was = coder.code(poke[0]);
+            Check.yes("poke", coder.poke(poke[0], poke[1]));
+            for (int i = 0; i < 2; i++) {
+                Check.unreadable("byte " + poke[0] + " is " + poke[1], coder);
+            }
+            Check.yes("poke", coder.poke(poke[0], was));
         }
-        coder.poke(6, 128);
-        Check.same("decode()", read(coder), 1);
-        coder.poke(7, 254);
-        Check.unreadable("the last but one is 254", coder);
-        coder.poke(7, 255);
-        coder.poke(8, 216);
-        Check.unreadable("the last is 216", coder);
-        // A byte too many: eight bits 1 and one 0 are 4 columns and 3 rows; 128 is one column and row.
-        coder = Face.framed(9, 0, new int[3][4]);
-        coder.encode();
-        coder.poke(2, 1);
-        coder.poke(3, 1);
-        coder.poke(6, 128);
-        Check.unreadable("a byte more than is needed", coder);
+        // Another picture whose last sample only is wrong: m = 16 is e = 8 of context 4.
+        GradientCoder other = Codes.holding(2, 1, 15, 0, "0 000011 000000001 0");
+        Check.unreadable("the last sample", other);
+        Check.same("width", other.number(0), 8);
+        Check.same("MAXVAL", other.number(2), 255);
+        Check.same("a sample", other.sample(7, 0), 0xa1);
+        // What was thrown at does not show in the next coding.
+        int size = other.encode();
+        GradientCoder same = Codes.holding(1, 1, 15, 0, "1");
+        Check.same("encode()", size, same.encode());
+        Check.same("all", Face.all(other), Face.all(same));
     }
 
-    private static void stuffedBits() {
-        GradientCoder coder = Face.framed(9, 0, new int[4][4]);
-        coder.encode();
-        Check.same("code", Face.code(coder), "255 216 4 4 9 0 255 64 255 217");
-        Check.same("decode()", read(coder), 16);
-        for (int b : new int[] {192, 128, 255}) {
-            coder.poke(7, b);
-            Check.unreadable("behind 255 comes " + b, coder);
-        }
-        coder.poke(7, 65);
-        Check.unreadable("a bit that is left is 1", coder);
-        coder.poke(3, 3);
-        coder.poke(7, 64);
-        Check.unreadable("behind the last 255 comes 64", coder);
-        coder.poke(7, 0);
-        Check.same("behind the last 255 comes 0", read(coder), 12);
-        coder.cut(9);
-        coder.poke(7, 255);
-        coder.poke(8, 217);
-        Check.unreadable("behind the last 255 comes the end", coder);
-    }
-
-    // The code of 200 in one sample is 0 0 1 109: bit 0, then 22 bits 0, 1, and m - 1 = 109.
-    private static GradientCoder single() {
-        GradientCoder coder = Face.framed(255, 0, new int[][] {{200}});
-        coder.encode();
-        Check.same("code", Face.code(coder), "255 216 1 1 255 0 0 0 1 109 255 217");
-        return coder;
-    }
-
-    private static void otherCodes() {
-        GradientCoder coder = single();
-        // m = 1 could be written by 3 bits.
-        Face.pokeBody(coder, 0, 0, 1, 0);
-        Check.same("decode()", read(coder), 1);
-        Check.same("sample", coder.sample(0, 0), 1);
-        coder.encode();
-        Check.same("coded again it is shorter", Face.code(coder), "255 216 1 1 255 0 80 255 217");
-    }
-
-    private static void runs() {
-        // Seven columns: 1, 1, 1, 1, 2, and 1 left with J 1.
-        GradientCoder coder = Face.framed(9, 0, new int[1][7]);
-        coder.encode();
-        Check.same("code", Face.code(coder), "255 216 7 1 9 0 252 255 217");
-        Check.same("decode()", read(coder), 7);
-        Check.same("run index", coder.runIndex(), 5);
-        // 1111 1 0 0, then K 1: 9 is e = 9 - 10 = -1, FLIP 1, m = 0: bits 1, 0.
-        coder = Face.framed(9, 0, new int[][] {{0, 0, 0, 0, 0, 0, 9}});
-        coder.encode();
-        Check.same("code", Face.code(coder), "255 216 7 1 9 0 249 0 255 217");
-        Check.same("decode()", read(coder), 7);
-        Check.same("sample", coder.sample(6, 0), 9);
-        Check.same("run index", coder.runIndex(), 4);
-        // 1111 1 0 1: the one that is left is of the run, so none is left for its end.
-        coder.poke(6, 251);
-        Check.unreadable("a run leaves no sample for its end", coder);
-    }
-
-    private static void bounds() {
-        GradientCoder coder = single();
-        Face.pokeBody(coder, 0, 0, 0, 109);
-        Check.unreadable("more bits 0 than can be written", coder);
-        Face.pokeBody(coder, 0, 0, 1, 253);
-        Check.same("m = 254, e = -128", read(coder), 1);
-        Check.same("sample", coder.sample(0, 0), 128);
-        Face.pokeBody(coder, 0, 0, 1, 252);
-        Check.same("m = 253, e = 127", read(coder), 1);
-        Check.same("sample", coder.sample(0, 0), 127);
-        Face.pokeBody(coder, 0, 0, 1, 254);
-        Check.unreadable("m = 255, e = 128", coder);
-        // MAXVAL 8 has RANGE 9: e is from -4 to 4; QB is 4, LIMIT 24: bit 0, 24 - 1 - 4 - 1 = 18 bits 0, 1, and
-        // m - 1 in 4 bits are three bytes. A code of three bytes is had from another picture.
-        coder = Face.framed(255, 0, new int[][] {{40}});
-        coder.encode();
-        Check.same("size", coder.size(), 11);
-        coder.poke(4, 8);
-        Face.pokeBody(coder, 0, 0, 16 + 6);
-        Check.same("m = 7, e = 4", read(coder), 1);
-        Check.same("sample", coder.sample(0, 0), 4);
-        coder.poke(8, 16 + 5);
-        Check.same("m = 6, e = -4 (with FLIP)", read(coder), 1);
-        Check.same("sample", coder.sample(0, 0), 5);
-        coder.poke(8, 16 + 7);
-        Check.unreadable("m = 8, e = -5", coder);
+    private static void canBeReadAgain() {
+        GradientCoder coder = Face.encoded(255, 1, SAMPLES);
+        Check.same("decode()", Codes.read(coder), 12);
+        String all = Face.all(coder);
+        Check.yes("poke", coder.poke(0, 254));
+        Check.same("decode() throws", Codes.read(coder), -1);
+        Check.yes("poke", coder.poke(0, 255));
+        Check.same("decode()", Codes.read(coder), 12);
+        Check.same("all", Face.all(coder), all);
+        Check.same("decode() once more", Codes.read(coder), 12);
+        Check.same("all", Face.all(coder), all);
     }
 }

@@ -4,8 +4,12 @@ final class Face {
     }
 
     static String all(GradientCoder coder) {
-        return numbers(coder) + samples(coder) + rebuilt(coder) + contexts(coder)
-            + " run index " + coder.runIndex() + " code " + code(coder);
+        return left(coder) + samples(coder) + " code " + code(coder);
+    }
+
+    /** The numbers, and what coding or reading has left. */
+    static String left(GradientCoder coder) {
+        return numbers(coder) + rebuilt(coder) + contexts(coder) + " run index " + coder.runIndex();
     }
 
     static String numbers(GradientCoder coder) {
@@ -36,11 +40,34 @@ final class Face {
         return text.toString();
     }
 
+    /** Values row by row, as samples() and rebuilt() tell them. */
+    static String values(String name, int[][] values) {
+        StringBuilder text = new StringBuilder(name);
+        for (int[] row : values) {
+            for (int value : row) {
+                text.append(' ').append(value);
+            }
+        }
+        return text.toString();
+    }
+
     static String contexts(GradientCoder coder) {
         StringBuilder text = new StringBuilder(" contexts");
         for (int q = 0; q < 367; q++) {
             for (int what = 0; what < 5; what++) {
                 text.append(' ').append(coder.context(q, what));
+            }
+        }
+        return text.toString();
+    }
+
+    /** The contexts that were used and how often, as N tells it: 9x1 is context 9 for one sample. */
+    static String used(GradientCoder coder) {
+        StringBuilder text = new StringBuilder();
+        for (int q = 0; q < 367; q++) {
+            int n = coder.context(q, 3);
+            if (n != 1) {
+                text.append(text.length() == 0 ? "" : " ").append(q).append('x').append(n - 1);
             }
         }
         return text.toString();
@@ -70,16 +97,15 @@ final class Face {
         return coder;
     }
 
+    static GradientCoder encoded(int maxval, int near, int[][] samples) {
+        GradientCoder coder = framed(maxval, near, samples);
+        coder.encode();
+        return coder;
+    }
+
     static void fill(GradientCoder coder, int[][] samples) {
         for (int y = 0; y < samples.length; y++) {
             Check.yes("row", coder.row(y, row(samples[y])));
-        }
-    }
-
-    /** The bytes between the four numbers of the picture and 255, 217 become these. */
-    static void pokeBody(GradientCoder coder, int... body) {
-        for (int i = 0; i < body.length; i++) {
-            Check.yes("poke", coder.poke(6 + i, body[i]));
         }
     }
 }
