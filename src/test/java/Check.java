@@ -43,6 +43,17 @@ final class Check {
         same(what, got ? 1 : 0, 0);
     }
 
+    /** All contexts and the run index have to be as at first, when A is this. */
+    static void asAtFirst(String what, GradientCoder coder, int a) {
+        int[] due = {a, 0, 0, 1, 0};
+        for (int q = 0; q <= 366; q++) {
+            for (int i = 0; i < 5; i++) {
+                same(what + ": context(" + q + ", " + i + ")", coder.context(q, i), due[i]);
+            }
+        }
+        same(what + ": runIndex()", coder.runIndex(), 0);
+    }
+
     /** A call that has to answer false and to leave everything as it was. */
     static void refused(String what, GradientCoder coder, BooleanSupplier call) {
         String before = Face.all(coder);

@@ -9,6 +9,7 @@ public final class LatestTest {
         ofEachContext();
         runIndex();
         ofTheLatestCoding();
+        eachBeginsAnew();
         ofTheLatestReading();
         notOfAReadingThatThrows();
         notBehindFrame();
@@ -93,6 +94,33 @@ public final class LatestTest {
         Check.same("run index", coder.runIndex(), 6);
     }
 
+    // Each of A, B, C, N and M begins anew with each coding and each reading.
+    private static void eachBeginsAnew() {
+        // Ends: e = -1, m = 0; e = 2, m = 3; e = -7, m = 12. Context 4: e = 15 - 0 is -1; e = 9 - 13: B = -5, N = 3.
+        // Context 2: e = 2 - 1. Context 1: e = 1 - 0.
+        GradientCoder coder = Codes.coded("all of them", 15, 0, new int[][] {{15, 0, 2, 1, 0, 9, 13}},
+            "0 10 11 0 011 010 010 0 00000010 00011");
+        contextIs(coder, 366, 9, 0, 0, 4, 2);
+        contextIs(coder, 4, 7, -2, -1, 3, 0);
+        contextIs(coder, 2, 3, -1, 1, 2, 0);
+        String left = Face.left(coder);
+        for (int i = 0; i < 3; i++) {
+            coder.encode();
+            Check.same("coded again", Face.left(coder), left);
+        }
+        for (int i = 0; i < 3; i++) {
+            Check.same("decode()", Codes.read(coder), 7);
+            Check.same("read again", Face.left(coder), left);
+        }
+        Check.yes("frame", coder.frame(7, 1, 15, 0));
+        Check.asAtFirst("behind frame", coder, 2);
+        // An even picture uses no context.
+        coder.encode();
+        Check.same("run index", coder.runIndex(), 5);
+        Check.yes("frame", coder.frame(7, 1, 15, 0));
+        Check.asAtFirst("behind frame", coder, 2);
+    }
+
     private static void ofTheLatestReading() {
         GradientCoder coder = Codes.holding(3, 1, 15, 0, "0 000011 10 1");
         Check.yes("contexts of the coding before", coder.context(366, 3) != 2 || !Face.used(coder).equals("4x2 366x1"));
@@ -132,10 +160,8 @@ public final class LatestTest {
     private static void notBehindFrame() {
         GradientCoder coder = Face.encoded(15, 0, ROWS);
         Check.yes("frame", coder.frame(3, 3, 255, 0));
-        Check.same("used", Face.used(coder), "");
-        Check.same("A of 366", coder.context(366, 0), 4);
+        Check.asAtFirst("behind frame", coder, 4);
         Check.same("rebuilt", Face.rebuilt(coder), " rebuilt 0 0 0 0 0 0 0 0 0");
-        Check.same("run index", coder.runIndex(), 0);
     }
 
     // Calls that neither code nor read leave them.

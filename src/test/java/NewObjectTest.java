@@ -50,12 +50,7 @@ public final class NewObjectTest {
     // "the contexts as at first, the run index 0".
     private static void contextsAndRunIndex() {
         GradientCoder coder = new GradientCoder();
-        int[] first = {4, 0, 0, 1, 0};
-        for (int q = 0; q <= 366; q++) {
-            for (int what = 0; what < 5; what++) {
-                Check.same("new: context(" + q + ", " + what + ")", coder.context(q, what), first[what]);
-            }
-        }
+        Check.asAtFirst("new", coder, 4);
         Check.same("new: context(367, 0)", coder.context(367, 0), -1000000);
         Check.same("new: context(-1, 0)", coder.context(-1, 0), -1000000);
         Check.same("new: runIndex()", new GradientCoder().runIndex(), 0);

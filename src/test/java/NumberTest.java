@@ -159,13 +159,7 @@ public final class NumberTest {
 
     private static void firstA(int maxval, int near, int a) {
         GradientCoder coder = framed(maxval, near);
-        int[] due = {a, 0, 0, 1, 0};
-        for (int q = 0; q <= 366; q++) {
-            for (int what = 0; what < 5; what++) {
-                Check.same("at first: context(" + q + ", " + what + ")", coder.context(q, what), due[what]);
-            }
-        }
-        Check.same("at first: runIndex()", coder.runIndex(), 0);
+        Check.asAtFirst("MAXVAL " + maxval + ", NEAR " + near, coder, a);
         Check.same("at first: context(367, 0)", coder.context(367, 0), -1000000);
     }
 }

@@ -8,6 +8,7 @@ public final class RunEndTest {
         kindUpToNear();
         kindBeyondNear();
         signAndForetold();
+        withinTheRow();
         kOfKindOne();
         kOfKindZero();
         flipWithKAboveZero();
@@ -79,6 +80,20 @@ public final class RunEndTest {
     private static void signIs(String before, int[][] samples, String bits, int m) {
         GradientCoder coder = Codes.coded("ends with " + samples[1][3], 15, 0, samples, before + bits);
         Check.same("M", coder.context(365, 4), m);
+    }
+
+    // b is what is above, whatever is beside it.
+    private static void withinTheRow() {
+        // Row 0: 111 0, e = 5, m = 9; 9: context 4, e = -4, m = 7. Row 1: 11, 0 and 1; the end: a = 0, b = 5, d = 9:
+        // e = 7 - 5, m = 4. Then a = 7, b = d = 9, c = 5: context 36 - 2, foretold 9, e = -2, m = 3.
+        GradientCoder coder = Codes.coded("b 5, d 9", 15, 0, new int[][] {{0, 0, 0, 5, 9}, {0, 0, 0, 7, 7}},
+            "111 0 000011 00011 11 0 1 0010 011");
+        contextIs("b 5, d 9", coder, 365, 4, 0, 0, 2, 0);
+        // Row 0: e = 5; context 4: 0, 0 and 5, m = 10; 9 ends a run of none: e = -7, m = 12, K 2. Row 1: 36 - 4; 11, 0;
+        // the end: a = 5, b = 0, d = 9: SIGN -1, e = -2, m = 3. Then b = d = 9, c = 0, a = 2: 36 - 2, e = -7, m = 13.
+        coder = Codes.coded("a 5, b 0, d 9", 15, 0, new int[][] {{5, 5, 5, 0, 9}, {5, 5, 5, 2, 2}},
+            "0 000011 10 1 00000000001 0 000100 10 11 0 011 00000011");
+        contextIs("a 5, b 0, d 9", coder, 365, 4, 0, 0, 2, 1);
     }
 
     // "K is the least with N * 2^K at least A + t * (N / 2)", N / 2 rounded down.

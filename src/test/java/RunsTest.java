@@ -4,10 +4,12 @@ public final class RunsTest {
         beginsIfAllThreeAreZero();
         doesNotBeginIfOneIsNot();
         beginsUpToNear();
+        beginsWithAllThreeAtNear();
         doesNotBeginBeyondNear();
         samplesUpToNear();
         rebuiltAsA();
         endsWithTheRow();
+        toTheEndOfTheRowAtMost();
         endsBeforeTheRow();
         ofNoSamples();
         longOnes();
@@ -53,6 +55,17 @@ public final class RunsTest {
         usedAre("c - b is -NEAR", 5, 1, new int[][] {{5, 0}, {2, 3}, {2, 0}}, "4x1 16x1 34x1 292x1 366x2");
         usedAre("a - c is NEAR", 5, 1, new int[][] {{5, 2, 5, 1, 4}}, "1x1 4x2 366x2");
         usedAre("a - c is -NEAR", 5, 1, new int[][] {{3, 3, 3}, {5, 2, 2}}, "1x1 2x2 16x1 366x1");
+    }
+
+    // Neighbours that are further from one another than NEAR, but each within NEAR of the next; the place is the second
+    // one of the last row, and 3, 8 and 3 end its run.
+    private static void beginsWithAllThreeAtNear() {
+        usedAre("a, c, b, d are 6, 6, 5, 4", 8, 1, new int[][] {{3, 8, 8}, {6, 5, 4}, {6, 3, 6}},
+            "1x1 2x2 4x1 16x1 25x1 259x1 366x2");
+        usedAre("a, c, b, d are 4, 5, 6, 7", 8, 1, new int[][] {{3, 3, 0}, {8, 0, 7}, {5, 6, 7}, {4, 8, 0}},
+            "1x1 2x2 16x3 33x1 165x1 290x1 300x1 365x1 366x1");
+        usedAre("a, c, b, d are 5, 4, 3, 2", 5, 1, new int[][] {{3, 3, 0}, {0, 0, 1}, {4, 3, 2}, {5, 3, 5}},
+            "2x4 16x4 160x1 365x1 366x2");
     }
 
     // The same places with one more: contexts 81, 9 and 1.
@@ -105,6 +118,22 @@ public final class RunsTest {
             GradientCoder coder = Codes.coded("a row of " + width, 15, 0, new int[1][width], bits[width - 1]);
             Check.same("run index of " + width, coder.runIndex(), index[width - 1]);
             Check.same("used of " + width, Face.used(coder), "");
+        }
+    }
+
+    // "from this one on and to the end of the row at most": the next row goes on with the same samples.
+    private static void toTheEndOfTheRowAtMost() {
+        // Row 0: 2 ends a run of none, m = 3; 0: context 2, foretold 2, e = 2, m = 4; then a run to the end. Row 1: 0:
+        // context 162 - 18 + 2, foretold 2, e = 2, m = 4; 0: context 18 - 2, e = 0; then a run to the end.
+        String[] runs = {"1 / 1", "11 / 11", "111 / 1 1", "1111 / 11", "1111 1 / 11 1", "1111 1 / 111"};
+        int[] index = {2, 4, 5, 6, 6, 8};
+        for (int width = 3; width <= 8; width++) {
+            int[][] samples = new int[2][width];
+            samples[0][0] = 2;
+            String[] rows = runs[width - 3].split("/");
+            GradientCoder coder = Codes.coded("to the end of " + width, 15, 0, samples,
+                "0 011 0010" + rows[0] + "0010 10" + rows[1]);
+            Check.same("run index of " + width, coder.runIndex(), index[width - 3]);
         }
     }
 
